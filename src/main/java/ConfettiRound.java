@@ -91,6 +91,8 @@ public final class ConfettiRound {
     private static final int MOST_LATE = 100;
     private static final int MOST_SEEDS = 20;
     private static final int TOUR_CELLS = 10;
+    /** More than any STEPS, and any LOSS with its cell, can come to. */
+    private static final int BEYOND = 1000000;
     private static final int PAST = 40;
     private static final int SLOTS = 3;
     private static final int TOLD = 20;
@@ -400,7 +402,7 @@ public final class ConfettiRound {
             return NONE;
         }
         // The LOSS counts before the cell, so the least of both in one number is the best cell.
-        int best = Integer.MAX_VALUE;
+        int best = BEYOND;
         for (int cell = 0; cell < CELLS && best >= CELLS; cell++) {
             would.copy(yard);
             would.goal[picker] = cell == yard.at[picker] ? NOTHING : cell;
@@ -451,15 +453,17 @@ public final class ConfettiRound {
         if (n < 0 || n > MOST_HOURS || s < 1 || s > MOST_SEEDS) {
             return NONE;
         }
+        // No RAIN, or nothing but RAIN: all SEEDS go alike.
+        boolean alike = text.rain <= 0 || text.rain >= MOST_RAIN;
         int clean = 0;
-        for (int i = 0; i < s; i++) {
+        for (int i = 0; i < (alike ? 1 : s); i++) {
             would.copy(yard);
             weather.goOn(text, would, n, text.seed + i);
             if (would.countLying() == 0) {
                 clean++;
             }
         }
-        return clean;
+        return alike ? clean * s : clean;
     }
 
     public int tell(int sign, boolean has) {
@@ -779,9 +783,13 @@ public final class ConfettiRound {
             fault = 0;
             laterFault = 0;
             tokens.split(tape);
-            boolean good = true;
-            for (int n = 0; n <= TOKENS && good && kindNow() != END; n++) {
-                good = tellOne(into);
+            for (int n = 0; n <= TOKENS && fault == 0 && kindNow() != END; n++) {
+                int kind = kindNow();
+                if (kind >= FIRST_LAW && kind < FIRST_LAW + LAWS) {
+                    lawTold(into, kind - FIRST_LAW);
+                } else {
+                    plainTold(into, kind);
+                }
             }
             if (fault == 0 && laterFault != 0) {
                 fault = laterFault;
@@ -790,8 +798,7 @@ public final class ConfettiRound {
             return fault;
         }
 
-        private boolean tellOne(Text into) {
-            int kind = kindNow();
+        private boolean plainTold(Text into, int kind) {
             switch (kind) {
                 case LETTER:
                     return letterTold(into);
@@ -805,10 +812,6 @@ public final class ConfettiRound {
                     return rainTold(into);
                 case SEED:
                     return seedTold(into);
-                case FIRST_LAW + BLOWS:
-                case FIRST_LAW + TAKES:
-                case FIRST_LAW + PAYS:
-                    return lawTold(into, kind - FIRST_LAW);
                 default:
                     return stop(SYNTAX);
             }
@@ -949,9 +952,8 @@ public final class ConfettiRound {
                 into.addCode(VAR - (kind - FIRST_VAR));
                 return take(kind);
             }
-            boolean good = takeAnyInt();
-            into.addCode(number);
-            return good;
+            into.addCode((int) valueNow());
+            return take(INT);
         }
 
         private boolean takeName(long[] names, int count) {
@@ -974,14 +976,10 @@ public final class ConfettiRound {
         }
 
         private boolean takeInt(int least, int most) {
-            if (valueNow() < least || valueNow() > most) {
+            number = (int) valueNow();
+            if (number < least || number > most) {
                 noteLater(WRONG);
             }
-            return takeAnyInt();
-        }
-
-        private boolean takeAnyInt() {
-            number = (int) valueNow();
             return take(INT);
         }
 
@@ -1004,20 +1002,18 @@ public final class ConfettiRound {
             return next < 0 || next > TOKENS ? 0 : tokens.value[next];
         }
 
-        private int placeNow() {
-            return next < 0 || next > TOKENS ? 0 : tokens.place[next];
-        }
-
-        private boolean stop(int number) {
-            fault = number;
-            place = placeNow();
+        private boolean stop(int which) {
+            if (next >= 0 && next <= TOKENS) {
+                fault = which;
+                place = tokens.place[next];
+            }
             return false;
         }
 
-        private void noteLater(int number) {
-            if (laterFault == 0) {
-                laterFault = number;
-                laterPlace = placeNow();
+        private void noteLater(int which) {
+            if (laterFault == 0 && next >= 0 && next <= TOKENS) {
+                laterFault = which;
+                laterPlace = tokens.place[next];
             }
         }
     }
@@ -1459,7 +1455,7 @@ public final class ConfettiRound {
         }
 
         int fewest(int start, int set) {
-            int least = set == 0 ? 0 : Integer.MAX_VALUE;
+            int least = set == 0 ? 0 : BEYOND;
             for (int next = 0; next < cells; next++) {
                 if ((set >> next & 1) == 1) {
                     least = Math.min(least, apart(start, cell[next]) + from[index(set, next)]);
@@ -1479,7 +1475,7 @@ public final class ConfettiRound {
         }
 
         int shared(int start, int otherStart) {
-            int least = Integer.MAX_VALUE;
+            int least = BEYOND;
             for (int set = 0; set <= all(); set++) {
                 int greater = Math.max(fewest(start, set), fewest(otherStart, all() & ~set));
                 least = Math.min(least, greater);
