@@ -179,7 +179,7 @@ public final class ConfettiRound {
             case 4:
                 return yard.holder(piece);
             case 5:
-                return onGround ? yard.lain[piece] : 0;
+                return yard.lain[piece];
             case 6:
                 return onGround && weather.lawOfPiece(BLOWS, text, yard, piece) > 0 ? 1 : 0;
             case 7:
@@ -639,6 +639,7 @@ public final class ConfettiRound {
         return length;
     }
 
+    /** Bytes behind its length are left as they are: they have gone. */
     private static final class Tape {
         final byte[] bytes = new byte[TAPE_BYTES];
         int length;
@@ -783,13 +784,10 @@ public final class ConfettiRound {
             fault = 0;
             laterFault = 0;
             tokens.split(tape);
-            for (int n = 0; n <= TOKENS && fault == 0 && kindNow() != END; n++) {
-                int kind = kindNow();
-                if (kind >= FIRST_LAW && kind < FIRST_LAW + LAWS) {
-                    lawTold(into, kind - FIRST_LAW);
-                } else {
-                    plainTold(into, kind);
-                }
+            boolean good = true;
+            for (int n = 0; n <= TOKENS && good && kindNow() != END; n++) {
+                int law = kindNow() - FIRST_LAW;
+                good = law >= 0 && law < LAWS ? lawTold(into, law) : plainTold(into);
             }
             if (fault == 0 && laterFault != 0) {
                 fault = laterFault;
@@ -798,8 +796,8 @@ public final class ConfettiRound {
             return fault;
         }
 
-        private boolean plainTold(Text into, int kind) {
-            switch (kind) {
+        private boolean plainTold(Text into) {
+            switch (kindNow()) {
                 case LETTER:
                     return letterTold(into);
                 case WORD:
@@ -1018,6 +1016,7 @@ public final class ConfettiRound {
         }
     }
 
+    /** What a text tells. All LAWS share one row of code, in which each begins at its start. */
     private static final class Text {
         int letters;
         int words;
@@ -1107,7 +1106,7 @@ public final class ConfettiRound {
         }
     }
 
-    /** All that goes on. A PIECE is where its cell (10 * Y + X) is or, from CELLS on, in a HAT. */
+    /** All that goes on. Where a PIECE is: its cell (10 * Y + X); from CELLS on, the HAT that it is in. */
     private static final class Yard {
         int hour;
         int pieces;
@@ -1310,6 +1309,7 @@ public final class ConfettiRound {
         }
     }
 
+    /** HOURS that go by, on the yard itself or on one that only would be. */
     private static final class Weather {
         private final Laws laws = new Laws();
         private final int[] lying = new int[CELLS];

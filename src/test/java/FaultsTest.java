@@ -148,6 +148,12 @@ public final class FaultsTest {
         fault("blows = " + times(7, "("), 2, 14);
         good("blows = " + times(6, "(") + "1" + times(6, ")") + "+" + times(6, "(") + "1" + times(6, ")") + ";");
         good("blows = " + times(30, "(1)*") + "2;");
+        String deep = times(6, "(") + "1" + times(6, ")");
+        good("pays = if " + deep + " < " + deep + " then " + deep + " else " + deep + ";");
+        fault("pays = if (" + deep + ") < 1 then 1 else 1;", 2, 16);
+        fault("pays = if 1 < (" + deep + ") then 1 else 1;", 2, 20);
+        fault("pays = if 1 < 1 then (" + deep + ") else 1;", 2, 27);
+        fault("pays = if 1 < 1 then 1 else 2 * (" + deep + ");", 2, 38);
         good("pays=1" + times(198, "+1") + ";");
         fault("pays=1" + times(199, "+1") + ";", 2, 6 + 398 - 1);
         String rains = times(133, "rain 0;");

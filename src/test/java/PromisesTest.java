@@ -761,6 +761,7 @@ public final class PromisesTest {
         due("33: no k", x.ask(4), -1);
         due("33: no k", x.ask(-1), -1);
         due("33: no words", CHECK.with("letter a 0 0;").ask(0), -2);
+        due("33: z, the last SIGN", CHECK.with("word az; word a;").ask(0), 26);
         due("33: by the first", CHECK.with("word z; word y;").ask(0), 25);
     }
 
