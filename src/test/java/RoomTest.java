@@ -8,7 +8,7 @@ public final class RoomTest {
             + "blows = if lain < which then 0 else sign - here; takes = sign * lain; pays = has + sign;";
 
     private static long allocated() {
-        return BEAN.getThreadAllocatedBytes(Thread.currentThread().getId());
+        return BEAN.getCurrentThreadAllocatedBytes();
     }
 
     public static void main(String[] args) {
