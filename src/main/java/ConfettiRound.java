@@ -77,7 +77,7 @@ public final class ConfettiRound {
     private static final int UNLESS_LESS = -5;
     private static final int ANSWER = -6;
     private static final int VAR = -7;
-    /** No TOKEN makes more than one entry, and the two LAWS that are never told need four more. */
+    /** No text makes more entries than it has TOKENS; the LAWS that hold if none is told need four more. */
     private static final int CODE = TOKENS + 8;
     private static final int STACK = 32;
 
@@ -1291,8 +1291,8 @@ public final class ConfettiRound {
         }
 
         private int varOf(int entry) {
-            int var = VAR - entry;
-            return var >= 0 && var < VARS ? vars[var] : 0;
+            int which = VAR - entry;
+            return which >= 0 && which < VARS ? vars[which] : 0;
         }
 
         private static int joined(int entry, int left, int right) {
