@@ -133,6 +133,10 @@ public final class EdgesOfHoursTest {
         EDGES.edge("a VAR not told for a LAW is 0 in it", "letter a 7 4; picker p 7 3 9; blows = 1 - hat - has;", "piece 0 6 = 1");
         String pays = "letter a 7 4; letter c 7 4; picker o 0 0 1; picker p 7 4 9; pays = ";
         EDGES.edge("a VAR not told for a LAW is 0 in it", pays + "5+across+down+lain+here;", "hours 2 = 2", "picker 1 6 = 10");
+        EDGES.edge("a VAR not told for a LAW is 0 in it, though it was told for another one", "letter ab 7 4; picker p 7 4 9; takes = 5+hat+has; pays = 5+hat; blows = 1-hat-has; wind 0 0;",
+                "hours 1 = 1", "picker 0 6 = 14", "piece 1 7 = 5", "picker 0 6 = 14", "piece 1 6 = 1", "picker 0 6 = 14", "loss 0 = 5");
+        EDGES.edge("a VAR not told for a LAW is 0 in it, though it was told for another one", "letter ab 7 4; picker p 7 4 9; pays = 5+across+down+lain+here; takes = 40+across;",
+                "hours 3 = 3", "piece 1 7 = 48", "picker 0 6 = 5", "count 7 = 5");
         EDGES.edge("PAYS: sign", pays + "sign;", "hours 1 = 1", "picker 1 6 = 4");
         EDGES.edge("PAYS: hat", pays + "hat;", "hours 1 = 1", "picker 1 6 = 18");
         EDGES.edge("PAYS: has: how many are in it", pays + "has;", "hours 1 = 1", "picker 1 6 = 4", "drop 0 = true", "picker 1 6 = 1");
@@ -315,6 +319,10 @@ public final class EdgesOfHoursTest {
 
     private static void rain() {
         EDGES.edge("if there is RAIN, nothing is blown", "letter a 4 4; blows = 1; rain 100;", "hours 3 = 3", "piece 0 2 = 4", "piece 0 5 = 3");
+        EDGES.edge("in RAIN, 32 PIECES", "letter abcdefgh 0 0; letter bcdefghi 0 1; letter cdefghij 0 2; letter defghijk 0 3; blows = 1; rain 100;", "hours 9 = 9", "piece 31 2 = 7", "piece 31 5 = 9",
+                "piece 0 5 = 9");
+        EDGES.edge("without RAIN, 32 PIECES", "letter abcdefgh 0 0; letter bcdefghi 0 1; letter cdefghij 0 2; letter defghijk 0 3; blows = 1;", "hours 1 = 1", "piece 31 2 = 8", "piece 31 5 = 0",
+                "piece 0 2 = 1");
         EDGES.edge("in RAIN, PICKERS go and pick up", "letter a 4 4; picker p 3 4 1; blows = 1; rain 100;", "send 0 4 4 = true", "hours 1 = 1", "piece 0 4 = 0");
         EDGES.edge("RAIN by the hour as it goes by: 5 and 40 are less than 41", "letter a 0 4; blows = 1; rain 41;", "count 12 = 0", "hours 1 = 1", "piece 0 2 = 1",
                 "count 12 = 1", "hours 1 = 2", "piece 0 2 = 1", "piece 0 5 = 1", "count 12 = 1", "hours 1 = 3", "piece 0 2 = 1", "piece 0 5 = 2", "count 12 = 0",

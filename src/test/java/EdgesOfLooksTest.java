@@ -173,6 +173,8 @@ public final class EdgesOfLooksTest {
     private static void longest() {
         EDGES.edge("LONGEST: the WORD with most signs", HEAPS, "longest 5 ~ 6", "longest 4 ~ 6");
         EDGES.edge("LONGEST: of alike ones the first", "letter abcd 0 0; word a; word bc; word ab; word cd; word abcde;", "longest 5 ~ 1");
+        EDGES.edge("LONGEST: one sign", "letter a 0 0; word a; word b;", "longest 5 ~ 0");
+        EDGES.edge("LONGEST: the last WORD", "letter abc 0 0; word a; word ab; word abc;", "longest 5 ~ 2");
         EDGES.edge("LONGEST: eight signs", "letter abcdefgh 0 0; word abcdefg; word hgfedcba; word abcdefgh;", "longest 5 ~ 1");
         EDGES.edge("22: none", HEAPS, "longest 0 ~ -2", "hours 1 = 1", "longest 0 ~ -2");
         EDGES.edge("22: none, no WORDS", "letter a 0 0;", "longest 5 ~ -2");
@@ -193,6 +195,8 @@ public final class EdgesOfLooksTest {
         EDGES.edge("LOSS: 0: now", "letter ab 0 0; takes = 7;", "loss 0 ~ 14");
         EDGES.edge("LOSS: TAKES of all that lie then", "letter ab 0 0; picker p 0 0 1; takes = 10*sign + lain + hour;", "loss 0 ~ 30", "loss 1 ~ 22", "loss 2 ~ 24", "hours 1 = 1", "loss 0 ~ 22",
                 "loss 1 ~ 24");
+        EDGES.edge("LOSS: here, as it is then", "letter ab 7 0; letter c 7 0; takes = here; blows = 1; rain 100;", "loss 0 ~ 5", "loss 1 ~ 5", "loss 2 ~ 9", "hours 1 = 1", "loss 0 ~ 5", "loss 3 ~ 9");
+        EDGES.edge("LOSS: here, once some are picked up", "letter ab 7 0; letter c 7 0; picker p 7 0 1; takes = here;", "loss 0 ~ 5", "loss 1 ~ 2", "hours 1 = 1", "loss 0 ~ 2");
         EDGES.edge("LOSS: as PICKERS go", "letter ab 0 0; picker p 3 0 9; takes = sign;", "loss 40 ~ 3", "send 0 0 0 = true", "loss 1 ~ 3", "loss 2 ~ 1", "loss 3 ~ 0", "loss 40 ~ 0");
         EDGES.edge("LOSS: in 40 HOURS", "letter a 0 0; takes = hour;", "loss 39 ~ 39", "loss 40 ~ 40", "hours 40 = 40", "loss 40 ~ 80");
         EDGES.edge("LOSS: as it is blown, without RAIN", "letter a 0 0; takes = across; blows = 1; rain 100;", "loss 0 ~ 0", "loss 3 ~ 3", "loss 40 ~ 9");
@@ -282,6 +286,8 @@ public final class EdgesOfLooksTest {
             EDGES.edge("YEAR by s SEEDS (1 .. 20) from the text's SEED on", text + rain + ";", rows.toArray(new String[0]));
             EDGES.edge("YEAR by s SEEDS (1 .. 20) from 9999 on", text + rain + "; seed 9999;", rowsBeyond.toArray(new String[0]));
         }
+        EDGES.edge("YEAR: RAIN 1, the LOT of the SEED 127 is 0", text + "1; seed 126;", "year 2 1 ~ 1", "year 2 2 ~ 1", "year 2 3 ~ 2", "year 2 20 ~ 19");
+        EDGES.edge("YEAR: RAIN 99, the LOT of the SEED 58 is 99", text + "99; seed 57;", "year 2 1 ~ 0", "year 2 2 ~ 1", "year 2 3 ~ 1", "year 2 20 ~ 1");
         EDGES.edge("YEAR: in n HOURS (0 .. 40)", text + "0;", "year 0 20 ~ 0", "year 1 20 ~ 0", "year 2 20 ~ 20", "year 40 20 ~ 20", "year 40 1 ~ 1");
         EDGES.edge("YEAR: in 40 HOURS, not in 39", "letter a 0 0; picker p 1 0 1; blows = if hour<38 then 0 else 1;", "year 39 3 ~ 0", "year 40 3 ~ 3");
         EDGES.edge("YEAR: from now on, whatever went by", text + "47;", "year 2 1 ~ 0", "hours 1 = 1", "piece 0 2 = 0", "year 40 20 ~ 0");

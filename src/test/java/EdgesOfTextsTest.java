@@ -195,6 +195,7 @@ public final class EdgesOfTextsTest {
             boolean whole = token.equals(";");
             EDGES.fault("the text's end: its length", text.toString(), whole ? 0 : 1, whole ? -1 : text.length());
             EDGES.fault("what is no TOKEN, with which no text goes on", text + "? ", 1, text.length());
+            EDGES.fault("the first by its place, a TELL behind it or not", text + "rain 0; ?", 1, text.length() + (whole ? 8 : 0));
         }
         EDGES.good("text: {TELL}: none", "");
         for (String quoted : QUOTED) {
@@ -360,6 +361,8 @@ public final class EdgesOfTextsTest {
         EDGES.fault("ROOM: a 401st TOKEN that begins a TELL", "wind 0 0;".repeat(100) + " word a;", 2, 901);
         EDGES.fault("ROOM: a 401st TOKEN in a LAW", "pays=1" + "+1".repeat(199) + ";", 2, 403);
         EDGES.good("ROOM: 400 TOKENS in a LAW", "pays=1" + "*1".repeat(198) + ";");
+        EDGES.edge("ROOM: 400 TOKENS, the last of them in a LAW", "letter a 0 0;rain 0;takes=1" + "*1".repeat(193) + "*7;", "piece 0 7 = 7");
+        EDGES.edge("ROOM: 400 TOKENS, the last of them behind an if", "letter a 0 0;takes=if 2<1 then 5 else 1" + "*1".repeat(191) + "*7;", "piece 0 7 = 7");
         EDGES.fault("ROOM: a 401st TOKEN ahead of SYNTAX", rains + "rain 0 ?", 2, 936);
     }
 
@@ -450,6 +453,15 @@ public final class EdgesOfTextsTest {
             round.read();
             EDGES.alike(sentence + ": " + text, round, Edges.replayed(text));
         }
+        String plain = "letter ab 3 3; letter cd 8 1; picker p 9 1 5; rain 40; blows = sign - 1;";
+        String plainest = "letter ab 3 3; picker p 3 3 5;";
+        for (String text : List.of(plain, plainest, "rain 47;")) {
+            String[] rows = {"tape:" + YARD, "read", "tape:" + YARD, "read", "tape:wind 2 2; seed 5; rain 9; takes = 3; blows = 1; ?", "read", "tape:" + text, "read", "place"};
+            EDGES.alike("what is not told is as if no text had been ahead", Edges.replayed(YARD, rows), Edges.replayed(text));
+        }
+        String laws = "letter a 0 0; takes = 1" + "+1".repeat(60) + "; pays = 2" + "+1".repeat(60) + "; blows = 0" + "+0".repeat(60) + ";";
+        String[] again = {"tape:" + laws, "read = 0", "tape:" + laws, "read = 0", "tape:" + laws, "read = 0", "tape:" + laws, "read = 0", "piece 0 7 = 61", "piece 0 6 = 0"};
+        EDGES.edge("a text of long LAWS again and again", laws, again);
         EDGES.edge("nothing can be undone, nothing is TOLD, SLOTS hold nothing", YARD, "hours 1 = 1", "send 0 5 5 = true", "hold 1 = true", "tell 1 true = 0",
                 "tape:" + YARD, "read = 0", "count 4 = 0", "count 5 = 4", "count 9 = 0", "count 10 = 0", "count 11 = 0", "count 13 = 0", "count 14 = 0",
                 "picker 0 3 = 0", "picker 1 3 = 0", "undo ~ false", "restore 1 ~ false", "forget ~ 0");

@@ -71,6 +71,8 @@ public final class EdgesOfToldTest {
         EDGES.edge("ASK: nothing parts them: the first SIGN", "word ab; word ba;", "ask 0 ~ 1");
         EDGES.edge("ASK: one is left: the first SIGN", "word z;", "ask 0 ~ 1");
         EDGES.edge("ASK: all eight, by half of them", "word z; word yz; word xz; word wz; word a; word b; word c; word d;", "ask 0 ~ 26");
+        EDGES.edge("ASK: nothing parts all eight: the first SIGN", "word abcd; word abdc; word acbd; word acdb; word adbc; word adcb; word bacd; word badc;", "ask 0 ~ 1");
+        EDGES.edge("ASK: one of eight", "word abcd; word abdc; word acbd; word acdb; word adbc; word adcb; word bacd; word bcd;", "ask 0 ~ 1", "tell 1 true = 0", "ask 1 ~ 1");
         EDGES.edge("33: none is left", WORDS, "tell 26 true = 0", "ask 1 ~ -2", "ask 0 ~ 1");
         EDGES.edge("33: none is left, no WORDS", "letter a 0 0;", "ask 0 ~ -2", "ask 1 ~ -1", "ask -1 ~ -1");
         EDGES.edge("33: no such k", WORDS, "ask 1 ~ -1", "tell 1 true = 0", "ask 1 ~ 2", "ask 2 ~ -1");
