@@ -1,5 +1,6 @@
 import java.lang.reflect.InvocationTargetException;
 import java.lang.reflect.Method;
+import java.lang.reflect.Modifier;
 import java.util.Arrays;
 
 /** Calls told as text, such as "send 0 5 5", on an object of the class or of its model. */
@@ -20,7 +21,9 @@ final class Calls {
 
     static long answer(Object on, String name, Object[] arguments) {
         for (Method method : on.getClass().getDeclaredMethods()) {
-            if (method.getName().equals(name) && method.getParameterCount() == arguments.length) {
+            // The model has private methods of the same names.
+            boolean own = !Modifier.isPrivate(method.getModifiers());
+            if (own && method.getName().equals(name) && method.getParameterCount() == arguments.length) {
                 return answer(on, method, arguments);
             }
         }
