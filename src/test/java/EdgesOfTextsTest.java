@@ -279,6 +279,8 @@ public final class EdgesOfTextsTest {
                 "piece 2 1 = 1", "piece 3 1 = 2", "piece 4 1 = 2", "piece 5 0 = -1");
         EDGES.edge("LETTERS, 4 at most, 8 signs each", "letter abcdefgh 0 0; letter bcdefghi 0 1; letter cdefghij 0 2; letter defghijk 5 3;", "count 0 = 4",
                 "count 1 = 32", "count 5 = 32", "count 6 = 32", "piece 31 0 = 11", "piece 31 1 = 3", "piece 31 2 = 2", "piece 31 3 = 3", "piece 32 0 ~ -1");
+        EDGES.edge("all numbered each from 0 on as they stand", "picker z 1 1 1; word z; letter z 9 7; picker a 2 2 2; rain 0; word a; letter a 0 0; word m; picker m 3 3 3;", "picker 0 0 = 1",
+                "picker 1 0 = 2", "picker 2 0 = 3", "piece 0 0 = 26", "piece 1 0 = 1", "missing 0 5 = 0", "missing 1 5 = 0", "missing 2 5 = 1", "made 5 = 3", "picker 3 0 = -1");
         EDGES.edge("a sign as often as it is written", "letter aaaa 0 0;", "count 1 = 4", "piece 3 0 = 1");
     }
 
