@@ -57,6 +57,8 @@ public final class EdgesOfLooksTest {
     private static void round() {
         EDGES.edge("ROUND: his own needs none", "letter a 4 4; picker p 4 4 1;", "round 0 0 ~ 0", "round 0 1 ~ -2");
         EDGES.edge("ROUND: nothing lies", "picker p 4 4 1;", "round 0 0 ~ 0", "round 0 1 ~ -2");
+        EDGES.edge("ROUND: nothing lies, and he is in the first corner", "picker p 0 0 1;", "round 0 0 ~ 0", "round 0 1 ~ -2");
+        EDGES.edge("ROUND: nothing lies where he was to go", "letter a 4 4; picker p 3 4 1;", "round 0 1 ~ 44", "send 0 4 4 = true", "hours 1 = 1", "round 0 1 ~ -2");
         EDGES.edge("ROUND: nothing lies any more", "letter a 4 4; picker p 4 4 1;", "hours 1 = 1", "round 0 0 ~ 0", "round 0 1 ~ -2");
         EDGES.edge("ROUND: 10 such cells", TEN + "picker p 0 1 1;", "count 6 = 10", "round 0 0 ~ 10", "round 0 1 ~ 0");
         EDGES.edge("ROUND: 10 such cells at most, his own not counted", ELEVEN + "picker p 0 0 1;", "count 6 = 11", "round 0 0 ~ 18", "round 0 1 ~ 1");
@@ -217,6 +219,8 @@ public final class EdgesOfLooksTest {
         EDGES.edge("STAND: others as they go", "letter a 4 4; letter b 0 0; picker p 9 7 1; picker q 5 4 1; takes = sign;", "stand 0 1 1 ~ 3", "send 1 4 4 = true", "stand 0 1 1 ~ 2",
                 "stand 0 1 0 ~ 0");
         EDGES.edge("STAND: his own goal is not looked at", "letter a 4 4; picker p 5 4 1;", "send 0 9 7 = true", "stand 0 1 1 ~ 0", "stand 0 1 0 ~ 0", "picker 0 4 = 9", "picker 0 5 = 7");
+        EDGES.edge("STAND: to a cell, none beyond the yard", "letter ab 0 7; letter cd 0 7; letter e 0 6; letter f 0 6; picker p 0 7 1; takes = if here<2 then 50 else 0;", "stand 0 1 0 ~ 0",
+                "stand 0 1 1 ~ 50");
         EDGES.edge("STAND: his HAT is full", "letter ab 4 4; picker p 4 4 1; takes = sign;", "hours 1 = 1", "stand 0 12 1 ~ 2", "stand 0 12 0 ~ 0");
         EDGES.edge("STAND: 32 PIECES, none to be had", "letter abcdefgh 0 0; letter bcdefghi 0 0; letter cdefghij 0 0; letter defghijk 0 0; picker p 9 7 1; takes = 99;", "stand 0 1 1 ~ 3168",
                 "stand 0 1 0 ~ 0", "stand 0 8 1 ~ 3168", "stand 0 9 1 ~ 3069");
